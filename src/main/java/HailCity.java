@@ -168,7 +168,7 @@ public final class HailCity {
         known.isRated = true;
         rated.addStars(stars);
         queueIfNowFree(rated, wasFree);
-        return rated.rating();
+        return rated.rating;
     }
 
     // ---- matches
@@ -250,7 +250,7 @@ public final class HailCity {
             case 1: return known.row.size;
             case 2: return known.row.size == 0 ? NONE : known.nextAt;
             case 3: return known.isFree() ? 1 : 0;
-            case 4: return known.rating();
+            case 4: return known.rating;
             case 5: return known.minutesThatCount;
             default: return known.doneCount;
         }
@@ -402,7 +402,7 @@ public final class HailCity {
     private boolean putIntoRow(Request waiting) {
         sharing.begin(waiting);
         for (int i = 0; i < driverCount; i++) {
-            if (!drivers[i].isBarred() && drivers[i].row.canTakeOneMore()) {
+            if (!drivers[i].isBarred && drivers[i].row.canTakeOneMore()) {
                 sharing.tryDriver(drivers[i]);
             }
         }
@@ -675,6 +675,8 @@ public final class HailCity {
         private final Row row;
         private final int[] latestStars;
         private int starCount;
+        private int rating;
+        private boolean isBarred;
         private int place;
         private boolean isResting;
         private int freeSince;
@@ -688,31 +690,23 @@ public final class HailCity {
             this.place = place;
             row = new Row();
             latestStars = new int[LATEST];
+            rating = WITHOUT_STARS;
         }
 
         boolean isFree() {
-            return row.size == 0 && !isResting && !isBarred();
-        }
-
-        boolean isBarred() {
-            return starCount >= FEWEST_TO_BAR && rating() < BARRED_BELOW;
+            return row.size == 0 && !isResting && !isBarred;
         }
 
         void addStars(int stars) {
             latestStars[starCount % LATEST] = stars;
             starCount++;
-        }
-
-        int rating() {
             int count = Math.min(starCount, LATEST);
-            if (count == 0) {
-                return WITHOUT_STARS;
-            }
             int sum = 0;
             for (int i = 0; i < count; i++) {
                 sum += latestStars[i];
             }
-            return sum * 100 / count;
+            rating = sum * 100 / count;
+            isBarred = starCount >= FEWEST_TO_BAR && rating < BARRED_BELOW;
         }
     }
 

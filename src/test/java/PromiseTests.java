@@ -27,6 +27,7 @@ public final class PromiseTests {
         barred();
         airport();
         airportQueue();
+        airportBarred();
         best();
         match();
         matchTies();
@@ -367,8 +368,18 @@ public final class PromiseTests {
         x.pass(2);
         due("both stops done at one minute", x.driverIs(0, 1), 0);
         dueThrow("DONE", () -> x.cancel(2), STATE);
+        x.pass(5);
+        x.request(9, 8, 60, false);
+        x.match();
+        x.pass(2);
+        due("2 minutes ago, later on", x.cancel(4), 0);
+        x.pass(60);
+        x.request(5, 4, 60, false);
+        x.match();
+        x.pass(3);
+        due("3 minutes ago, later on", x.cancel(5), 500);
         dueThrow("request -1", () -> x.cancel(-1), BOUNDS);
-        dueThrow("request 4", () -> x.cancel(4), BOUNDS);
+        dueThrow("request 6", () -> x.cancel(6), BOUNDS);
     }
 
     /** Lets driver 0 do a ride of one minute, at whichever of the places 1 and 2 the driver is. */
@@ -520,6 +531,51 @@ public final class PromiseTests {
         due("at one minute by drivers", y.requestIs(3, 2), 1);
     }
 
+    private static void airportBarred() {
+        promise = "13 airport, who was barred";
+        HailCity x = line(1);
+        x.driver(0);
+        for (int i = 0; i < 6; i++) {
+            x.request(i % 2, 1 - i % 2, 60, false);
+            due("the ride is given", i % 2 == 0 ? x.airport() : x.match(), 1);
+            x.pass(1);
+        }
+        x.driver(0);
+        for (int i = 0; i < 5; i++) {
+            x.rate(i, i < 2 ? 4 : 3);
+        }
+        x.request(0, 1, 60, false);
+        x.request(0, 1, 60, false);
+        due("who is barred is not given", x.airport(), 1);
+        due("but the other", x.requestIs(6, 2), 1);
+        x.driver(0);
+        x.rest(2, true);
+        due("barred no more", x.rate(5, 4), 350);
+        x.rest(2, false);
+        x.driver(0);
+        x.request(0, 1, 60, false);
+        x.request(0, 1, 60, false);
+        due("all given", x.airport(), 3);
+        due("FREE again ahead of others", x.requestIs(7, 2), 0);
+        due("FREE behind a break", x.requestIs(8, 2), 2);
+        HailCity y = line(1);
+        y.driver(0);
+        for (int i = 0; i < 6; i++) {
+            y.request(i % 2, 1 - i % 2, 60, false);
+            y.airport();
+            y.match();
+            y.pass(1);
+        }
+        for (int i = 0; i < 5; i++) {
+            y.rate(i, i < 2 ? 4 : 3);
+        }
+        y.driver(0);
+        y.rate(5, 4);
+        y.request(0, 1, 60, false);
+        y.airport();
+        due("who was FREE all the time goes ahead", y.requestIs(6, 2), 1);
+    }
+
     private static void best() {
         promise = "14 best, 15 bestAnew";
         HailCity x = line(2);
@@ -549,7 +605,15 @@ public final class PromiseTests {
         dueThrow("6 WAIT", () -> x.best(), STATE);
         dueThrow("6 WAIT, anew", () -> x.bestAnew(), STATE);
         x.cancel(4);
-        due("5 WAIT again", x.best(), x.bestAnew());
+        due("5 WAIT again", x.best(), 29994);
+        due("5 WAIT again, anew", x.bestAnew(), 29994);
+        for (int i = 2; i < 7; i++) {
+            if (i != 4) {
+                x.cancel(i);
+            }
+        }
+        due("1 WAITS", x.best(), 9996);
+        due("1 WAITS, anew", x.bestAnew(), 9996);
     }
 
     private static void match() {
@@ -750,6 +814,25 @@ public final class PromiseTests {
         y.request(6, 7, 60, true);
         y.share();
         due("the least more, though later", y.requestIs(2, 2), 1);
+        // More than all the row as it is, by the minutes of all its stops.
+        HailCity z = line(2);
+        z.driver(2);
+        z.driver(2);
+        z.request(2, 3, 60, true);
+        z.request(3, 8, 60, true);
+        z.match();
+        due("the longer row", z.driverIs(1, 1), 2);
+        z.request(3, 4, 60, true);
+        z.share();
+        due("none more on the longer row", z.requestIs(2, 2), 1);
+        // The requests go by numbers, from the lowest on.
+        HailCity w = line(2);
+        w.driver(1);
+        w.request(0, 1, 60, true);
+        w.request(1, 0, 60, true);
+        w.match();
+        due("the first request is shared too", w.share(), 1);
+        row("the first request", w, 0, 0, 101, 0, 0, 1, 100);
     }
 
     private static void requestIs() {
