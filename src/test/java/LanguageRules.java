@@ -34,6 +34,10 @@ public final class LanguageRules {
         "\\bimport\\b(?! java\\.util\\.(ArrayList|List|Arrays|Iterator);)", "\\bSystem\\.(?!arraycopy)",
         "\\bMath\\.(?!(max|min|abs|floorDiv|floorMod)\\b)", "\\bwhile *\\(true\\)", "for *\\(;;\\)", "[^\\x00-\\x7f]"};
 
+    private static final String[] AHEAD_OF_CALLS = {
+        "streets\n\n    public int street(", "drivers\n\n    public int driver(", "requests\n\n    public int cap(",
+        "matches\n\n    public int airport(", "asking\n\n    public int requestIs("};
+
     private static int wrong = 0;
 
     public static void main(String[] args) throws IOException {
@@ -119,6 +123,9 @@ public final class LanguageRules {
         for (String not : NOT_IN_TEXT) {
             Matcher matcher = Pattern.compile(not).matcher(bare);
             must(!matcher.find(), "nothing like " + not);
+        }
+        for (String each : AHEAD_OF_CALLS) {
+            must(text.contains("    // ---- " + each), "what the interface says ahead of its calls: " + each);
         }
         int start = -1;
         String[] lines = text.split("\n");

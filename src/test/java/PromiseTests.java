@@ -1,16 +1,5 @@
-import java.util.function.IntSupplier;
-
 /** Tests of each promise of the document: ordinary inputs, the edges that it names, and wrong inputs. */
-public final class PromiseTests {
-    private static final int BOUNDS = -101;
-    private static final int ARGUMENT = -102;
-    private static final int STATE = -103;
-    private static final int OTHER = -104;
-
-    private static int passed = 0;
-    private static int failed = 0;
-    private static String promise = "";
-
+public final class PromiseTests extends Check {
     public static void main(String[] args) {
         newObject();
         streets();
@@ -39,61 +28,11 @@ public final class PromiseTests {
         stop();
         pay();
         pass();
-        System.out.println("PromiseTests: " + passed + " passed, " + failed + " failed");
-        if (failed > 0) {
-            System.exit(1);
-        }
-    }
-
-    private static void due(String what, int got, int want) {
-        if (got == want) {
-            passed++;
-        } else {
-            failed++;
-            System.out.println(promise + ": " + what + " answered " + got + ", due is " + want);
-        }
-    }
-
-    private static void dueThrow(String what, IntSupplier call, int want) {
-        int got;
-        try {
-            call.getAsInt();
-            got = 0;
-        } catch (IndexOutOfBoundsException e) {
-            got = e.getClass() == IndexOutOfBoundsException.class ? BOUNDS : OTHER;
-        } catch (IllegalArgumentException e) {
-            got = e.getClass() == IllegalArgumentException.class ? ARGUMENT : OTHER;
-        } catch (IllegalStateException e) {
-            got = e.getClass() == IllegalStateException.class ? STATE : OTHER;
-        } catch (RuntimeException e) {
-            got = OTHER;
-        }
-        due(what + " (0 none, -101 bounds, -102 argument, -103 state)", got, want);
-    }
-
-    private static int bit(boolean is) {
-        return is ? 1 : 0;
-    }
-
-    /** Places 0 to 9 in one line, each as many minutes from the next. */
-    private static HailCity line(int minutes) {
-        HailCity x = new HailCity();
-        for (int i = 0; i < 9; i++) {
-            x.street(i, i + 1, minutes);
-        }
-        return x;
-    }
-
-    private static void row(String what, HailCity x, int driver, int... placesAndWhom) {
-        due(what + ": stops", x.driverIs(driver, 1), placesAndWhom.length / 2);
-        for (int i = 0; i < placesAndWhom.length / 2; i++) {
-            due(what + ": place of stop " + i, x.stop(driver, i, false), placesAndWhom[2 * i]);
-            due(what + ": whom at stop " + i, x.stop(driver, i, true), placesAndWhom[2 * i + 1]);
-        }
+        finish("PromiseTests");
     }
 
     private static void newObject() {
-        promise = "1 a new object";
+        about("1 a new object");
         due("NONE", HailCity.NONE, -1);
         due("WAITS", HailCity.WAITS, 0);
         due("SENT", HailCity.SENT, 1);
@@ -116,7 +55,7 @@ public final class PromiseTests {
     }
 
     private static void streets() {
-        promise = "2 street";
+        about("2 street");
         HailCity x = new HailCity();
         for (int i = 0; i < 20; i++) {
             if (i == 7) {
@@ -139,7 +78,7 @@ public final class PromiseTests {
     }
 
     private static void slow() {
-        promise = "3 slow";
+        about("3 slow");
         HailCity x = new HailCity();
         x.street(1, 2, 5);
         x.street(2, 3, 5);
@@ -169,7 +108,7 @@ public final class PromiseTests {
     }
 
     private static void way() {
-        promise = "4 way";
+        about("4 way");
         HailCity x = line(3);
         due("itself", x.way(4, 4), 0);
         due("all along", x.way(0, 9), 27);
@@ -185,7 +124,7 @@ public final class PromiseTests {
     }
 
     private static void driver() {
-        promise = "5 driver";
+        about("5 driver");
         HailCity x = new HailCity();
         for (int i = 0; i < 8; i++) {
             due("its number", x.driver(9 - i), i);
@@ -198,7 +137,7 @@ public final class PromiseTests {
     }
 
     private static void rest() {
-        promise = "6 rest";
+        about("6 rest");
         HailCity x = line(2);
         x.driver(1);
         due("no break to end", bit(x.rest(0, false)), 0);
@@ -219,7 +158,7 @@ public final class PromiseTests {
     }
 
     private static void wander() {
-        promise = "7 wander";
+        about("7 wander");
         HailCity x = line(2);
         x.driver(1);
         x.pass(3);
@@ -248,7 +187,7 @@ public final class PromiseTests {
     }
 
     private static void cap() {
-        promise = "8 cap";
+        about("8 cap");
         HailCity x = line(1);
         for (int i = 0; i < 12; i++) {
             x.request(3, 4, 60, false);
@@ -265,7 +204,7 @@ public final class PromiseTests {
     }
 
     private static void height() {
-        promise = "9 height";
+        about("9 height");
         HailCity x = line(1);
         due("empty", x.height(3), 100);
         x.request(9, 1, 3, false);
@@ -295,7 +234,7 @@ public final class PromiseTests {
     }
 
     private static void request() {
-        promise = "10 request";
+        about("10 request");
         HailCity x = line(3);
         due("its number", x.request(3, 6, 60, false), 0);
         due("its price", x.requestIs(0, 1), 660);
@@ -333,7 +272,7 @@ public final class PromiseTests {
     }
 
     private static void cancel() {
-        promise = "11 cancel";
+        about("11 cancel");
         HailCity x = line(5);
         x.driver(1);
         x.request(3, 5, 60, true);
@@ -399,7 +338,7 @@ public final class PromiseTests {
     }
 
     private static void rate() {
-        promise = "12 rate";
+        about("12 rate");
         HailCity x = twoPlaces();
         due("without any", x.driverIs(0, 4), 500);
         int first = ride(x);
@@ -429,7 +368,7 @@ public final class PromiseTests {
     }
 
     private static void barred() {
-        promise = "12 rate, barred";
+        about("12 rate, barred");
         HailCity x = twoPlaces();
         int[] rides = new int[6];
         for (int i = 0; i < 6; i++) {
@@ -474,7 +413,7 @@ public final class PromiseTests {
     }
 
     private static void airport() {
-        promise = "13 airport";
+        about("13 airport");
         HailCity x = line(4);
         x.driver(0);
         x.driver(1);
@@ -492,7 +431,7 @@ public final class PromiseTests {
     }
 
     private static void airportQueue() {
-        promise = "13 airport, the queue";
+        about("13 airport, the queue");
         HailCity x = line(1);
         x.driver(1);
         x.driver(0);
@@ -532,7 +471,7 @@ public final class PromiseTests {
     }
 
     private static void airportBarred() {
-        promise = "13 airport, who was barred";
+        about("13 airport, who was barred");
         HailCity x = line(1);
         x.driver(0);
         for (int i = 0; i < 6; i++) {
@@ -577,7 +516,7 @@ public final class PromiseTests {
     }
 
     private static void best() {
-        promise = "14 best, 15 bestAnew";
+        about("14 best, 15 bestAnew");
         HailCity x = line(2);
         due("none", x.best(), 0);
         due("none anew", x.bestAnew(), 0);
@@ -617,7 +556,7 @@ public final class PromiseTests {
     }
 
     private static void match() {
-        promise = "16 match";
+        about("16 match");
         HailCity x = line(2);
         x.driver(3);
         x.driver(5);
@@ -663,7 +602,7 @@ public final class PromiseTests {
     }
 
     private static void matchTies() {
-        promise = "16 match, the same sum";
+        about("16 match, the same sum");
         HailCity x = line(2);
         x.driver(5);
         x.driver(3);
@@ -697,7 +636,7 @@ public final class PromiseTests {
     }
 
     private static void share() {
-        promise = "17 share";
+        about("17 share");
         HailCity x = line(2);
         x.driver(1);
         x.request(1, 9, 60, true);
@@ -743,7 +682,7 @@ public final class PromiseTests {
     }
 
     private static void sharePromises() {
-        promise = "17 share, promises";
+        about("17 share, promises");
         // Driver 0 goes from 1 to 3 to let in, then to 7: promise 4 + 12.
         HailCity x = line(2);
         x.driver(1);
@@ -788,7 +727,7 @@ public final class PromiseTests {
     }
 
     private static void shareTies() {
-        promise = "17 share, the same";
+        about("17 share, the same");
         HailCity x = line(2);
         x.driver(1);
         x.driver(1);
@@ -836,7 +775,7 @@ public final class PromiseTests {
     }
 
     private static void requestIs() {
-        promise = "18 requestIs";
+        about("18 requestIs");
         HailCity x = line(3);
         x.driver(2);
         x.pass(2);
@@ -882,7 +821,7 @@ public final class PromiseTests {
     }
 
     private static void driverIs() {
-        promise = "19 driverIs";
+        about("19 driverIs");
         HailCity x = line(3);
         x.driver(4);
         toldOf(x, new int[] {4, 0, -1, 1, 500, 0, 0});
@@ -908,7 +847,7 @@ public final class PromiseTests {
     }
 
     private static void stop() {
-        promise = "20 stop";
+        about("20 stop");
         HailCity x = line(3);
         x.driver(4);
         due("without stops", x.stop(0, 0, false), -1);
@@ -931,7 +870,7 @@ public final class PromiseTests {
     }
 
     private static void pay() {
-        promise = "21 pay";
+        about("21 pay");
         HailCity x = line(1);
         x.driver(1);
         due("nothing", x.pay(0), 0);
@@ -978,7 +917,7 @@ public final class PromiseTests {
     }
 
     private static void pass() {
-        promise = "22 pass";
+        about("22 pass");
         HailCity x = line(2);
         due("the minute then", x.pass(120), 120);
         dueThrow("0", () -> x.pass(0), ARGUMENT);
