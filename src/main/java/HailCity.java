@@ -631,6 +631,13 @@ public final class HailCity {
             letOuts[to] = letOuts[from];
         }
 
+        void copyFrom(Row other) {
+            size = 0;
+            for (int i = 0; i < other.size; i++) {
+                put(i, other.places[i], other.riders[i], other.letOuts[i]);
+            }
+        }
+
         /** The stop to let the rider in stays, for nobody; that to let the rider out goes. */
         void dropRider(Request rider) {
             for (int i = size - 1; i >= 0; i--) {
@@ -822,6 +829,8 @@ public final class HailCity {
         private static final int ANY_MINUTE = 1000000;
 
         private final CityMap map;
+        // The row that is tried: that of a driver, with both stops of the rider put in.
+        private final Row longer;
         private Request waiting;
         private Driver driver;
         private int in;
@@ -832,6 +841,7 @@ public final class HailCity {
 
         Sharing(CityMap map) {
             this.map = map;
+            longer = new Row();
         }
 
         void begin(Request request) {
@@ -866,33 +876,36 @@ public final class HailCity {
 
         /** The minute of the last stop with the rider put in, or NONE if there is no way, or a promise would break. */
         private int lastWith(Driver tried, int inAt, int outAt) {
-            Row row = tried.row;
+            longer.copyFrom(tried.row);
+            longer.put(inAt, waiting.from, waiting, false);
+            longer.put(outAt, waiting.to, waiting, true);
             int minute = tried.nextAt;
-            int place = row.placeAt(0);
-            for (int i = 0; i < row.size + 2; i++) {
-                int old = i - (i > inAt ? 1 : 0) - (i > outAt ? 1 : 0);
-                int next = i == inAt ? waiting.from : i == outAt ? waiting.to : row.placeAt(old);
-                int minutes = map.minutesBetween(place, next);
+            for (int i = 0; i < longer.size; i++) {
+                int minutes = i == 0 ? 0 : map.minutesBetween(longer.placeAt(i - 1), longer.placeAt(i));
                 if (minutes == NONE) {
                     return NONE;
                 }
                 minute += minutes;
-                place = next;
                 if (i == inAt) {
                     triedLetInAt = minute;
                 }
-                int latest = i == inAt ? waiting.patienceOver
-                        : i == outAt ? map.promiseOf(waiting, triedLetInAt) : latestAt(row, old);
-                if (minute > latest) {
+                if (minute > latestAt(i)) {
                     return NONE;
                 }
             }
             return minute;
         }
 
-        private static int latestAt(Row row, int at) {
-            Request rider = row.riderAt(at);
-            return rider != null && row.isLetOutAt(at) ? rider.promise : ANY_MINUTE;
+        /** The minute by which a stop of the longer row has to be reached. */
+        private int latestAt(int at) {
+            Request rider = longer.riderAt(at);
+            if (rider == null) {
+                return ANY_MINUTE;
+            }
+            if (longer.isLetOutAt(at)) {
+                return rider == waiting ? map.promiseOf(waiting, triedLetInAt) : rider.promise;
+            }
+            return rider == waiting ? waiting.patienceOver : ANY_MINUTE;
         }
     }
 }

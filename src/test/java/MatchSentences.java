@@ -532,6 +532,19 @@ public final class MatchSentences extends Sentences {
                 x.request(3, 4, 60, true);
                 due("promised 5, by now " + (2 + minutes), x.share(), minutes <= 3 ? 1 : 0);
             }
+            HailCity y = line(2);
+            y.slow(7, 20);
+            y.street(2, 8, 1);
+            y.driver(1);
+            y.request(2, 6, 60, true);
+            y.match();
+            y.request(3, 6, 4, true);
+            due("to be let in at 4, just then", y.share(), 1);
+            y.request(8, 6, 60, true);
+            due("by promises alone, not by the patience of others", y.share(), 1);
+            row("let in at 6", y, 0, 2, 0, 8, 2, 3, 1, 6, 102, 6, 101, 6, 100);
+            y.pass(6);
+            due("SENT is waited for", y.requestIs(1, 0), HailCity.ABOARD);
         });
         says("at the next stop too", () -> {
             for (int minutes = 5; minutes <= 7; minutes++) {
